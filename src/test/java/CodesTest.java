@@ -156,6 +156,12 @@ public final class CodesTest {
         HumpYard simple = Check.yard("dcba");
         simple.brand(1);
         boundedDue(simple, 3, 7, 4210);
+        // b may not have 1 behind a's 2, so two steps don't do
+        HumpYard behind = Check.yard("cab");
+        behind.set(0, 0, 2);
+        Check.rooms(behind, 1, 2, 24);
+        boundedDue(behind, 3, 5, 240);
+        boundedDue(Check.yard("hgfedcba"), 3, 20, 76543210);
         HumpYard noFirst = Check.yard("ba");
         noFirst.room(0, 0);
         boundedDue(noFirst, 2, 3, 20);
@@ -217,6 +223,7 @@ public final class CodesTest {
         check.promise(17, "mean");
         meanDue("dcba", "3210", 2, 1);
         meanDue("abc", "000", 1, 1);
+        meanDue("a", "7", 4, 1);
         meanDue("abcd", "7100", 2, 1);
         meanDue("abcd", "3000", 3, 2);
         meanDue("abcd", "7777", 4, 1);

@@ -31,6 +31,7 @@ public final class ListsTest {
         check.due("list(0, 0)", x.list(0, 0), 1);
         check.due("list(3, 12)", x.list(3, 12), 1);
         check.due("get(3, 11)", x.get(3, 11), 0);
+        x.put(3, 0, 9);
         x.put(3, 4, 9);
         check.due("list(3, 13)", x.list(3, 13), -2);
         check.due("list(3, -1)", x.list(3, -1), -14);
@@ -40,6 +41,7 @@ public final class ListsTest {
         check.due("list(4, 13)", x.list(4, 13), -1);
         check.due("list(-1, -1)", x.list(-1, -1), -1);
         check.due("list(3, 5) anew", x.list(3, 5), 1);
+        check.due("get(3, 0)", x.get(3, 0), 0);
         check.due("get(3, 4)", x.get(3, 4), 0);
         check.due("get(3, 5)", x.get(3, 5), NO);
         check.due("list(1, -1)", x.list(1, -1), -14);
@@ -161,6 +163,8 @@ public final class ListsTest {
         x.pull(1);
         x.pull(2);
         x.clear();
+        Check.feed(x, "|ecdba");
+        x.yard();
         Check.feed(x, "|ba");
         x.yard();
         x.room(1, 3);

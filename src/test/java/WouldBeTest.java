@@ -27,6 +27,10 @@ public final class WouldBeTest {
         elsewhereNot("abc|de");
         elsewhereNot("ba|dc");
         HumpYard x = Check.yard("ba");
+        check.due("elsewhere(0)", x.elsewhere(0), 0);
+        Check.feed(x, "ab");
+        x.yard();
+        check.due("elsewhere(0) of another yard", x.elsewhere(0), -5);
         check.due("elsewhere(3)", x.elsewhere(3), -2);
         check.due("elsewhere(-1)", x.elsewhere(-1), -2);
         check.due("elsewhere(3) of none", new HumpYard().elsewhere(3), -2);
@@ -124,6 +128,8 @@ public final class WouldBeTest {
         check.due("seen(0, 0, 0): b has 3", x.seen(0, 0, 0), 0xf0);
         Check.fill(x, 1, 0, 1);
         check.due("seen(0, 0, 1)", x.seen(0, 0, 1), 0x0f);
+        Check.fill(x, 2, 7, 0);
+        check.due("seen(0, 0, 2): the first is otherwise", x.seen(0, 0, 2), 0);
         Check.fill(x, 2, 1, 0, 0);
         check.due("seen(0, 0, 2): a place too many", x.seen(0, 0, 2), 0);
         Check.fill(x, 2, 1);

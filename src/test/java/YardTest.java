@@ -99,6 +99,7 @@ public final class YardTest {
         yardFault("`", 0);
         yardFault("A", 0);
         yardFault("abcdefgh|a", 9);
+        yardFault("abcdefghi", 8);
         yardFault("b", 0);
         yardFault("acd", 2);
         yardFault("a|c", 2);
@@ -134,6 +135,9 @@ public final class YardTest {
         x.pull(0);
         Check.feed(x, "b|a");
         check.due("yard() though HUMPED", x.yard(), 2);
+        check.due("wanted(0, -1)", x.wanted(0, -1), 1);
+        check.due("wanted(0, 0)", x.wanted(0, 0), 1);
+        check.due("wanted(1, -1)", x.wanted(1, -1), 1);
         check.due("count(6)", x.count(6), 0);
         check.due("count(7)", x.count(7), 0);
         check.due("count(1)", x.count(1), 0);
@@ -143,6 +147,9 @@ public final class YardTest {
         check.due("wagon(1, 1)", x.wagon(1, 1), 0);
         check.due("track(1, 0): ROOM stays", x.track(1, 0), 7);
         check.due("count(5): BRAND stays", x.count(5), 2);
+        check.due("yard() of an empty tape", x.yard(), 0);
+        check.due("wanted(0, -1)", x.wanted(0, -1), 0);
+        check.due("wanted(1, -1)", x.wanted(1, -1), 0);
     }
 
     private static void codes() {

@@ -2,6 +2,7 @@
 final class Check {
     private final String title;
     private String part = "";
+    private String words = "";
     private int checks = 0;
     private int failures = 0;
 
@@ -14,18 +15,31 @@ final class Check {
         part = "promise " + number + " (" + name + ")";
     }
 
+    /** What follows tests these words of the document. */
+    void sentence(String quoted) {
+        words = ", \"" + quoted + "\"";
+    }
+
     void due(String call, long got, long want) {
         checks++;
         if (got != want) {
             failures++;
-            System.out.println(title + ", " + part + ": " + call + " answered " + got + ", due is " + want);
+            System.out.println(title + ", " + part + words + ": " + call + " answered " + got + ", due is " + want);
         }
     }
 
     void fail(String text) {
         checks++;
         failures++;
-        System.out.println(title + ": " + text);
+        System.out.println(title + ", " + part + words + ": " + text);
+    }
+
+    void due(String call, String got, String want) {
+        if (got.equals(want)) {
+            passed();
+        } else {
+            fail(call + " answered " + got + ", due is " + want);
+        }
     }
 
     void passed() {
@@ -37,6 +51,12 @@ final class Check {
         if (failures != 0 || checks == 0) {
             System.exit(1);
         }
+    }
+
+    /** Numbers just outside low .. high, far outside, and such as would be inside if bits were lost. */
+    static int[] outside(int low, int high) {
+        return new int[] {Integer.MIN_VALUE, Integer.MIN_VALUE + low, low - 256, low - 1, high + 1, low + 256,
+            low + 65536, Integer.MAX_VALUE};
     }
 
     static void feed(HumpYard x, String text) {

@@ -16,6 +16,7 @@ public final class CodesEdgesTest {
         rightAsked();
         boundedOrder();
         boundedNeighbours();
+        boundedAnew();
         boundedRoom();
         boundedBrand();
         boundedAsked();
@@ -288,13 +289,19 @@ public final class CodesEdgesTest {
     }
 
     private static HumpYard tight(String text, int brand, String lengths, int... rooms) {
-        HumpYard x = Check.yard(text);
+        HumpYard x = new HumpYard();
+        tighten(x, text, brand, lengths, rooms);
+        return x;
+    }
+
+    private static void tighten(HumpYard x, String text, int brand, String lengths, int... rooms) {
+        Check.feed(x, text);
+        x.yard();
         x.brand(brand);
         for (int w = 0; w < lengths.length(); w++) {
             x.set(w, 0, lengths.charAt(w) - '0');
         }
         Check.rooms(x, rooms[0], rooms[1], rooms[2]);
-        return x;
     }
 
     private static void boundedNeighbours() {
@@ -307,6 +314,23 @@ public final class CodesEdgesTest {
         boundDue(tight("bac", 0, "113", 1, 1, 5), 3, 5, "104");
         // the last code that may be for e is what makes a and f 4, with fewer 1s than 3
         boundDue(tight("dcbafe", 3, "211121", 4, 6, 10), 3, 12, "421064");
+    }
+
+    /** What was found for more wagons must not matter when there are fewer. */
+    private static void boundedAnew() {
+        check.sentence("BOUNDED: of all CODES that FIT those with fewest STEPS; of like ones with fewest ROLLS");
+        HumpYard x = Check.yard(FALLING);
+        boundDue(x, 3, 20, "76543210");
+        tighten(x, "dbac", 0, "1311", 1, 12, 18);
+        boundDue(x, 3, 7, "4240");
+        tighten(x, FALLING, 0, "11111111", 4, 4, 4);
+        boundDue(x, 3, 20, "76543210");
+        tighten(x, "ed|cba", 0, "13123", 2, 5, 4);
+        boundDue(x, 3, 8, "42010");
+        x.yard();
+        boundDue(x, 0, 0, "");
+        tighten(x, "dcba|fe", 0, "111131", 4, 4, 24);
+        boundDue(x, 3, 10, "421010");
     }
 
     private static void boundedRoom() {

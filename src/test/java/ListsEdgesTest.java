@@ -280,24 +280,27 @@ public final class ListsEdgesTest {
     private static void imageHoldsEight() {
         check.sentence("All is as THE IMAGE");
         for (String text : new String[] {"abcdefgh", "|hgfedcba", "hgfe|dcba"}) {
-            HumpYard x = Check.yard(text, "76543217");
-            for (int w = 0; w < 8; w++) {
-                x.set(w, 0, 1 + w % 3);
-            }
-            x.hump();
-            x.pull(0);
-            check.due("image() of " + text, x.image(), 8);
-            String held = told(x);
-            x.pull(1);
-            x.pull(2);
-            x.clear();
-            for (String other : new String[] {"", "h|gfedcba", "gfedcbah|"}) {
-                Check.feed(x, other);
-                x.yard();
-                check.due("undo() of " + text, x.undo(), 8);
-                check.due("all of it", told(x), held);
+            for (String other : new String[] {"", "hgfedcba", "|abcdefgh", "h|gfedcba"}) {
+                undoBehind(text, other);
             }
         }
+    }
+
+    private static void undoBehind(String text, String other) {
+        HumpYard x = Check.yard(text, "76543217");
+        for (int w = 0; w < 8; w++) {
+            x.set(w, 0, 1 + w % 3);
+        }
+        x.hump();
+        x.pull(0);
+        check.due("image() of " + text, x.image(), 8);
+        String held = told(x);
+        x.pull(1);
+        x.pull(2);
+        Check.feed(x, other);
+        x.yard();
+        check.due("undo() of " + text + " behind " + other, x.undo(), 8);
+        check.due("all of it", told(x), held);
     }
 
     /** All that the image holds, as it is told; an object has 512 calls, so only what there is is asked. */
